@@ -228,7 +228,7 @@ public final class ShapeRelator {
             }
             if (kind == AREA) {
                 addSegment(last, start);
-            } else if (start != last) {
+            } else {
                 turnMark(start);
                 turnMark(last);
             }
@@ -639,11 +639,9 @@ public final class ShapeRelator {
             long from = Math.max(Math.min(one, two), 0);
             long to = Math.min(Math.max(one, two), span);
             int sign = course.sign | Cuts.MEETS;
-            if (from < to) {
+            if (from <= to) {
                 cuts.add(from, span, sign | Cuts.COVER_BEGINS);
                 cuts.add(to, span, sign | Cuts.COVER_ENDS);
-            } else if (from == to) {
-                cuts.add(from, span, sign);
             }
         }
 

@@ -264,7 +264,15 @@ public final class PromiseTest {
         make(1, AREA, at(5, 5, 15, 5), at(-5, 5, 5, 5));
         matrixIs("an area of rims alone", "F12F01F12");
         questionsAre("an area of rims alone", "2");
+        make(1, AREA, square(10, 2, 3), square(0, 0, 10));
+        make(0, AREA, square(10, 2, 3));
+        matrixIs("one square of two", "2FFF1F212");
+        make(0, AREA, at(0, 0, 4, 0));
+        make(1, AREA, at(4, 0, 9, 0));
+        matrixIs("rims end to end", "FFFF01F12");
+        questionsAre("rims end to end", "02");
         make(0, AREA, at(0, 0, 3, 3));
+        make(1, AREA, at(20, 0, 3, 40));
         questionsAre("no insides at all", "01");
         due("no insides: dimension", x.dimension(0), 1);
     }
@@ -292,6 +300,13 @@ public final class PromiseTest {
         questionsAre("a longer line", "58");
         make(1, LINES, at(20, 0, 30, 0));
         questionsAre("lines apart", "1");
+        make(1, LINES, at(10, 10, 12, 12, 10, 10));
+        matrixIs("straight on, there and back", "FF10F01F2");
+        questionsAre("straight on, there and back", "2");
+        make(0, AREA, square(0, 0, 10));
+        make(1, LINES, at(2, 0, 8, 0));
+        matrixIs("an area and a line on its rim", "FF2101FF2");
+        questionsAre("an area and a line on its rim", "28");
         make(0, LINES, at(-5, 5, 15, 5));
         make(1, AREA, square(0, 0, 10));
         matrixIs("a line through an area", "101FF0212");
@@ -354,6 +369,19 @@ public final class PromiseTest {
         make(0, LINES, at(-FAR, 0, FAR, 1), at(-FAR, 1, FAR, 0));
         make(1, LINES, at(0, -FAR, 0, FAR), at(1, -FAR, -1, FAR));
         matrixIs("far: crossings next to each other", "0F1FF0102");
+        // In each of these two cuts lie nearer to each other than rounded numbers tell.
+        make(0, AREA, at(-499999997, 499999998, -499999999, 0, -499999998, 1));
+        make(1, LINES, at(0, 2, -499999999, 1));
+        matrixIs("far: a line through a thin corner", "1F20F1102");
+        make(0, AREA, at(2, -499999997, -FAR, -FAR, -499999996, -499999998));
+        make(1, AREA, at(-FAR, -FAR, 499999997, 499999996, 499999998, -1));
+        matrixIs("far: rims along each other", "FF2F11212");
+        make(0, AREA, at(-FAR, 499999998, 499999998, -499999998, FAR, -499999999));
+        make(1, AREA, at(-499999999, -499999999, -499999999, 499999999, -499999999, 499999998));
+        due("far: a thin area and a flat one", x.relate(), 45451);
+        make(0, AREA, at(-65087901, 53761250, -426755693, 191893326, -84895702, -155247035));
+        make(1, LINES, at(-417444456, 231404518, -31028952, -247637343));
+        matrixIs("far: a line through an area", "1F20F1102");
     }
 
     private static void entriesAndNumbers() {
