@@ -282,7 +282,8 @@ public final class ShapeRelator {
                     return placeOnSegment();
                 }
                 boolean rises = ys[head] > y;
-                // The place is to the left of a segment that rises just where it is to the right of one that falls.
+                // Places that have the segment to the right of them are on its left hand if it rises,
+                // on its right hand if it falls.
                 if (rises != (ys[tail] > y) && rises == (side > 0)) {
                     odd = !odd;
                 }
@@ -330,7 +331,7 @@ public final class ShapeRelator {
             dy = figure.ys[head] - y;
         }
 
-        /** Above 0 to the left of its line, 0 on the line, below 0 to the right; at most 2 * 10^18 far from 0. */
+        /** Above 0 to the left of its line, 0 on it, below 0 to the right; at most 2 * 10^18 from 0. */
         long sideOf(int px, int py) {
             return dx * (py - y) - dy * (px - x);
         }

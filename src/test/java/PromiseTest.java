@@ -435,6 +435,21 @@ public final class PromiseTest {
         due("points 1", x.count(1, 2), 1);
     }
 
+    /** What README.md shows must be so. */
+    private static void readmeExample() {
+        x = new ShapeRelator();
+        make(0, AREA, at(0, 0, 10, 0, 10, 10));
+        make(1, LINES, at(-5, 5, 25, 5));
+        due("README: locate", x.locate(0, 9, 1), 0);
+        due("README: relate", x.relate(), 144551);
+        due("README: entry", x.entry(0, 0), 1);
+        due("README: entry of nothing", x.entry(0, 1), ShapeRelator.NONE);
+        due("README: is", x.is(3), true);
+        due("README: dimension", x.dimension(0), 2);
+        due("README: count", x.count(1, 2), 2);
+        due("README: shape", x.shape(1, POINTS), 2);
+    }
+
     /** Answers kept from before a change would show here. */
     private static void changesAreSeen() {
         x = new ShapeRelator();
@@ -468,6 +483,7 @@ public final class PromiseTest {
         entriesAndNumbers();
         dimensions();
         counts();
+        readmeExample();
         changesAreSeen();
         System.out.println(wrong == 0 ? "all answers are as due" : wrong + " answers are not as due");
         if (wrong != 0) {
